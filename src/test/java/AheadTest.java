@@ -2,6 +2,7 @@
 public final class AheadTest {
     public static void main(String[] args) {
         foresee();
+        foreseeFromLater();
         foreseeRefused();
         foreseeTellsWhatPasses();
         rings();
@@ -44,6 +45,29 @@ public final class AheadTest {
         Due.same("foresee(1, 1): what is lost before does not count", w.foresee(1, 1), 1);
         Due.same("foresee(1, 0)", w.foresee(1, 0), 3);
         Due.same("without anything", new FloodWardens().foresee(36, 0), 0);
+    }
+
+    /** What is so already counts ahead, too. */
+    private static void foreseeFromLater() {
+        FloodWardens w = new FloodWardens();
+        w.setRiver(0, 2);
+        w.addGauge(0, 1, 1);
+        w.addRefuge(5, 5, 4);
+        w.addRefuge(5, 7, 6);
+        w.settle(5, 5, 3);
+        w.addCaller(5, 5);
+        w.pass(1);
+        w.settle(5, 5, 2);
+        Due.same("no room for 2 any more", w.foresee(1, 0), 3);
+        Due.same("but in the other one", w.foresee(2, 0), 5);
+        w.addPump(0, 1, 1, 5);
+        w.run(0);
+        Due.same("a stopped one keeps its fuel", w.foresee(1, 3), 5);
+        w.run(0);
+        Due.same("and not if it runs", w.foresee(1, 3), 4);
+        w.setRiver(3, 8);
+        Due.same("the river of the third hour from now", w.foresee(2, 2), 9);
+        Due.same("comes in it", w.foresee(3, 2), 10);
     }
 
     private static void foreseeRefused() {
@@ -133,13 +157,15 @@ public final class AheadTest {
         }
         Due.same("where no water comes a bag holds off none", w.advise(1), 4);
         w.lay(4, 1, 5);
-        Due.same("4 has 5 sandbags", w.advise(1), 5);
+        w.setGround(4, 1, 3);
+        Due.same("4 has 5 sandbags, though a sixth would hold off all", w.advise(1), 5);
         w.setGround(5, 1, 3);
         Due.same("half of 7 is half of 6: less at 6 alone", w.advise(1), 6);
         w.lay(6, 1, 4);
         w.setGround(6, 1, 0);
         Due.same("with 4 there is room for one more", w.advise(1), 6);
         w.lay(4, 1, 0);
+        w.setGround(4, 1, 2);
         for (int x = 0; x < 7; x++) {
             w.lay(x, 7, 5);
         }
@@ -206,6 +232,13 @@ public final class AheadTest {
         Due.sameShare("share() of 6", w.share(), 5.0 / 6);
         w.settle(0, 7, 1);
         Due.sameShare("share() of 7", w.share(), 5.0 / 7);
+        w.setRiver(1, 12);
+        w.settle(5, 6, 4);
+        w.settle(8, 6, 4);
+        w.addCaller(8, 6);
+        w.pass(1);
+        Due.same("4 people are on their way", w.count(3), 4);
+        Due.sameShare("share() of 15", w.share(), 9.0 / 15);
 
         FloodWardens all = new FloodWardens();
         all.setRiver(0, 12);
@@ -218,10 +251,10 @@ public final class AheadTest {
         safe.setRiver(0, 2);
         safe.addGauge(0, 1, 1);
         safe.addRefuge(5, 5, 20);
-        safe.settle(5, 5, 2);
+        safe.settle(5, 5, 1);
         safe.addCaller(5, 5);
         safe.pass(1);
-        Due.sameShare("share() of all safe", safe.share(), 1.0);
+        Due.sameShare("share() of one who is safe", safe.share(), 1.0);
     }
 
     private static void digest() {

@@ -205,6 +205,14 @@ public final class HourTest {
         Due.same("taken in all by pump 1", w.pump(1, 5), 7);
         Due.same("taken in all by pump 3", w.pump(3, 5), 2);
         Due.same("its fuel", w.pump(3, 3), 8);
+
+        FloodWardens last = new FloodWardens();
+        last.setRiver(0, 2);
+        last.addPump(4, 1, 5, 9);
+        last.pass(2);
+        at(last, "1 of 1 is taken", 4, 1, 0);
+        Due.same("taken", last.pump(0, 5), 1);
+        Due.same("no fuel goes where no water is", last.pump(0, 3), 8);
     }
 
     /** A town in which a board rings from the first hour on, with water so low that all can be walked. */
@@ -358,6 +366,23 @@ public final class HourTest {
         edge.settle(0, 4, 1);
         edge.pass(1);
         Due.same("the other edge of the town is no neighbour", edge.caller(0, 2), 1);
+
+        FloodWardens left = ringing();
+        left.addCaller(0, 5);
+        left.settle(0, 5, 1);
+        left.settle(9, 4, 1);
+        left.settle(9, 5, 1);
+        left.addRefuge(9, 4, 6);
+        left.pass(1);
+        Due.same("the other edge is no neighbour there, too", left.caller(0, 2), 1);
+        livesAt(left, "no way leads over the edge: up at first", 0, 0, 4);
+        Due.same("9 steps are left", left.household(0, 4), 9);
+        left.pass(7);
+        isAt(left, "all the way through the town", 0, 7, 5);
+        Due.same("one was warned before", left.caller(0, 2), 1);
+        left.pass(1);
+        isAt(left, "beside 9, 5", 0, 8, 5);
+        Due.same("in all two were warned by this one", left.caller(0, 2), 2);
     }
 
     private static void householdsChoice() {
