@@ -1,4 +1,4 @@
-/** Promises 19 to 23: foresee, rings, advise, share, digest. */
+/** Promises 19 to 22: foresee, rings, advise, share. */
 public final class AheadTest {
     public static void main(String[] args) {
         foresee();
@@ -11,7 +11,6 @@ public final class AheadTest {
         adviseLooksAtFlow();
         adviseRefused();
         share();
-        digest();
         Due.end();
     }
 
@@ -255,69 +254,5 @@ public final class AheadTest {
         safe.addCaller(5, 5);
         safe.pass(1);
         Due.sameShare("share() of one who is safe", safe.share(), 1.0);
-    }
-
-    private static void digest() {
-        FloodWardens w = new FloodWardens();
-        Due.same("digest() of a new object", w.digest(), digestByCalls(w, new int[12]));
-        int[] table = new int[12];
-        for (int hour = 0; hour < 12; hour++) {
-            table[hour] = 12 - hour;
-            w.setRiver(hour, table[hour]);
-        }
-        w.setGround(9, 7, 7);
-        w.lay(3, 1, 4);
-        w.addPump(2, 2, 3, 9);
-        w.addPump(0, 0, 1, 2);
-        w.run(1);
-        w.addGauge(4, 2, 3);
-        w.addRefuge(5, 6, 4);
-        w.settle(5, 2, 4);
-        w.settle(7, 1, 3);
-        w.addCaller(5, 3);
-        Due.same("digest() with all", w.digest(), digestByCalls(w, table));
-        w.pass(3);
-        Due.same("digest() behind 3 hours", w.digest(), digestByCalls(w, table));
-        w.pass(20);
-        Due.same("digest() behind 23 hours", w.digest(), digestByCalls(w, table));
-    }
-
-    private static long digestByCalls(FloodWardens w, int[] table) {
-        StringBuilder told = new StringBuilder();
-        tell(told, 10, what -> w.count(what));
-        for (int place = 0; place < 80; place++) {
-            int x = place % 10;
-            int y = place / 10;
-            tell(told, 6, what -> w.cell(x, y, what));
-        }
-        tell(told, 12, hour -> table[hour]);
-        tellEach(told, 6, (pump, what) -> w.pump(pump, what));
-        tellEach(told, 5, (gauge, what) -> w.gauge(gauge, what));
-        tellEach(told, 5, (refuge, what) -> w.refuge(refuge, what));
-        tellEach(told, 5, (household, what) -> w.household(household, what));
-        tellEach(told, 3, (caller, what) -> w.caller(caller, what));
-        long d = 1013;
-        for (String x : told.toString().trim().split(" ")) {
-            d = d * 31 + Long.parseLong(x);
-        }
-        return d;
-    }
-
-    private static void tell(StringBuilder told, int facts, java.util.function.IntUnaryOperator ask) {
-        for (int what = 0; what < facts; what++) {
-            told.append(ask.applyAsInt(what)).append(' ');
-        }
-    }
-
-    private static void tellEach(StringBuilder told, int facts, java.util.function.IntBinaryOperator ask) {
-        for (int number = 0; number < 100; number++) {
-            int asked = number;
-            try {
-                ask.applyAsInt(asked, 0);
-            } catch (IndexOutOfBoundsException thereIsNoSuch) {
-                return;
-            }
-            tell(told, facts, what -> ask.applyAsInt(asked, what));
-        }
     }
 }

@@ -18,6 +18,10 @@ final class Due {
         check(call + " answered " + got + ", due is " + due, Double.compare(got, due) == 0);
     }
 
+    static void told(String call, String got, String due) {
+        check(call + " answered " + got + ", due is " + due, got.equals(due));
+    }
+
     static void holds(String claim, boolean holds) {
         check("it does not hold that " + claim, holds);
     }
