@@ -17,6 +17,7 @@ public final class WaterEdgeTest {
         flowsOverSandbags();
         waterUpTo40();
         waterIsCutBehindAllFlowing();
+        waterOfAFullCellBesideAnother();
         pumpsOfEachPowerOverEachWater();
         pumpsWithoutFuel();
         pumpsForThirtyHours();
@@ -213,7 +214,7 @@ public final class WaterEdgeTest {
         }
     }
 
-    /** A row y, but for hills, has 25 - y of water at most then; the river has 12 at a level of 26. */
+    /** Around x 5 a row y has 26 - y of water then, a hill of 9 has 9 less, and the river has 12 at a level of 26. */
     private static FloodWardens fullTown(int hillX, int hillY) {
         FloodWardens w = new FloodWardens();
         for (int hour = 0; hour < 12; hour++) {
@@ -231,6 +232,12 @@ public final class WaterEdgeTest {
         for (int times = 0; times < 10; times++) {
             w.pass(36);
         }
+        return w;
+    }
+
+    /** All but the cell 5, 2 is raised, so that all around it can flow into it; of the river's bags 5 are left. */
+    private static FloodWardens fullTownAround52(int hillX, int hillY) {
+        FloodWardens w = fullTown(hillX, hillY);
         for (int x = 1; x < 9; x++) {
             if (x != 5) {
                 w.lay(x, 0, 0);
@@ -250,7 +257,7 @@ public final class WaterEdgeTest {
         int[] groundToTheLeft = {5, 7, 9, 9};
         int[] due = {38, 39, 40, 40};
         for (int number = 0; number < 4; number++) {
-            FloodWardens w = fullTown(0, 7);
+            FloodWardens w = fullTownAround52(0, 7);
             at(w, "before", 5, 2, 24);
             at(w, "before, above", 5, 1, 25);
             at(w, "before, to the right", 6, 2, 24);
@@ -267,7 +274,7 @@ public final class WaterEdgeTest {
 
     /** 24 of water, 20 more come, and 4 go. */
     private static void waterIsCutBehindAllFlowing() {
-        FloodWardens w = fullTown(4, 2);
+        FloodWardens w = fullTownAround52(4, 2);
         at(w, "before", 5, 2, 24);
         at(w, "before, above", 5, 1, 25);
         at(w, "before, to the right", 6, 2, 24);
@@ -282,6 +289,43 @@ public final class WaterEdgeTest {
         at(w, "half of 15 went", 5, 1, 18);
         at(w, "half of 14 went", 6, 2, 17);
         at(w, "half of 13 went", 5, 3, 17);
+    }
+
+    /** From 5, 2 with 40 of water 15 come into 6, 2, from above it 7, and 5 go, in whatever order they are counted. */
+    private static void waterOfAFullCellBesideAnother() {
+        FloodWardens w = fullTown(7, 2);
+        fill52With40(w);
+        at(w, "full", 5, 2, 40);
+        at(w, "beside it", 6, 2, 24);
+        at(w, "above that", 6, 1, 25);
+        at(w, "on the hill", 7, 2, 14);
+        w.lay(4, 2, 0);
+        w.lay(5, 3, 0);
+        w.setGround(5, 2, 9);
+        w.lay(5, 2, 5);
+        w.setGround(6, 1, 9);
+        w.lay(6, 1, 5);
+        w.setGround(7, 1, 9);
+        w.setGround(7, 2, 0);
+        w.pass(1);
+        at(w, "24, 15 and 7 without 5", 6, 2, 40);
+        at(w, "half of 30 went", 5, 2, 25);
+        at(w, "half of 15 went", 6, 1, 18);
+    }
+
+    private static void fill52With40(FloodWardens w) {
+        for (int x = 1; x < 4; x++) {
+            w.lay(x, 0, 0);
+        }
+        w.lay(5, 1, 5);
+        w.lay(4, 2, 5);
+        w.lay(5, 3, 5);
+        int[][] raised = {{5, 1}, {4, 2}, {5, 3}, {5, 4}, {4, 3}, {3, 2}};
+        for (int[] cell : raised) {
+            w.setGround(cell[0], cell[1], 9);
+        }
+        w.setGround(6, 3, 2);
+        w.pass(1);
     }
 
     // ---- the pumps
