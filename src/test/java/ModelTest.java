@@ -7,7 +7,7 @@ public final class ModelTest {
         "rings", "advise", "digest"};
     private static final int[] WRONG = {-1, Integer.MIN_VALUE, Integer.MAX_VALUE, 10, 8, 6, 12, 41, 100};
 
-    private static long seed = 20261119;
+    private static final Chance CHANCE = new Chance(20261119);
 
     public static void main(String[] args) {
         for (int run = 1; run <= RUNS; run++) {
@@ -16,14 +16,12 @@ public final class ModelTest {
         Due.end();
     }
 
-    /** The same numbers in every run of the test: a linear congruence, its high bits. */
     private static int below(int bound) {
-        seed = seed * 6364136223846793005L + 1442695040888963407L;
-        return (int) ((seed >>> 33) % bound);
+        return CHANCE.below(bound);
     }
 
     private static int between(int least, int most) {
-        return least + below(most - least + 1);
+        return CHANCE.between(least, most);
     }
 
     private static int seldomWrong(int right) {
